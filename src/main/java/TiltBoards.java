@@ -369,8 +369,7 @@ public final class TiltBoards {
         trial.copyFrom(now.boards[board]);
         trial.angle = angle;
         int ticks = 0;
-        while (ticks < TICKS_FORESEEN && !trial.isAtRest(now.rules)) {
-            trial.slideOnce(now.rules);
+        while (ticks < TICKS_FORESEEN && trial.slideOnce(now.rules)) {
             ticks++;
         }
         return ticks;

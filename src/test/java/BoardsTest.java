@@ -128,6 +128,14 @@ public final class BoardsTest {
         due("moving on 0", x.board(0, 6), 3);
         x.undo();
         due("undone: moving on 0", x.board(0, 6), 0);
+        x.pour(1, 0, 0, 1);
+        due("jolt(1) with one grain", x.jolt(1), 1);
+        due("moving on 1", x.board(1, 6), 1);
+        due("needs(1, 0, 0)", x.needs(1, 0, 0), 15);
+        x.tilt(1, 20);
+        x.pass(1);
+        due("one grain that came is moving", x.board(1, 6), 1);
+        due("needs(1, 1, 0)", x.needs(1, 1, 0), 15);
         due("jolt(0)", x.jolt(0), 3);
         x.tilt(0, 17);
         due("it slides as it is moving", x.reason(0, 0, 0), 0);

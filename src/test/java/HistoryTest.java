@@ -83,6 +83,19 @@ public final class HistoryTest {
         x.undo();
         due("moving", x.board(0, 6), 0);
 
+        x.pour(4, 0, 0, 5);
+        x.pour(4, 0, 0, 6);
+        x.undo();
+        due("grains", x.grains(4, 0, 0), 5);
+        x.set(0, 1);
+        x.set(0, 2);
+        x.undo();
+        due("setting", x.count(7), 1);
+        x.pass(1);
+        x.pass(2);
+        x.undo();
+        due("tick", x.count(0), 1);
+
         // The order of the kinds goes with the grips.
         TiltBoards y = new TiltBoards();
         y.pour(0, 6, 0, 20);

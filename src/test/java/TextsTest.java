@@ -24,6 +24,7 @@ public final class TextsTest {
     public static void main(String[] args) {
         type();
         clearText();
+        nothingBehindTheText();
         textsWithoutFault();
         textsThatEndTooEarly();
         faultsInTilts();
@@ -62,6 +63,34 @@ public final class TextsTest {
         due("one act", x.count(10), 1);
         x.clearText();
         due("clearText() is no act", x.count(10), 1);
+    }
+
+    /** What stood behind the text before it was emptied is not read, nor what is beyond its room. */
+    private static void nothingBehindTheText() {
+        String[] whole = {"t1=23", "p123*45", "j3", "e3", ".67", "j0;j0"};
+        for (String text : whole) {
+            for (int length = 0; length < text.length(); length++) {
+                String part = text.substring(0, length);
+                int fresh = Checks.perform(new TiltBoards(), part);
+                TiltBoards x = new TiltBoards();
+                Checks.typeAll(x, text);
+                due("'" + part + "' after '" + text + "'", Checks.perform(x, part), fresh);
+            }
+        }
+        String[] parts = {"t", "t0", "t0=", "p", "p0", "p00", "p000", "p000*", "j", "e", "."};
+        for (String part : parts) {
+            fault(upTo(60 - part.length()) + part, 60);
+        }
+    }
+
+    /** Orders with a ";" behind each, of so many signs in all, which are at least 4. */
+    private static String upTo(int length) {
+        StringBuilder orders = new StringBuilder();
+        while (length - orders.length() >= 7) {
+            orders.append("j0;");
+        }
+        String[] last = {".10;", "t0=5;", "j0;j0;"};
+        return orders.append(last[length - orders.length() - 4]).toString();
     }
 
     private static void textsWithoutFault() {

@@ -195,6 +195,11 @@ public final class ToldTest {
         due("what has no room does not count", x.leastAngle(0), 44);
         x.tilt(0, 90);
         due("whatever angle there is", x.leastAngle(0), 44);
+        x.pour(1, 0, 1, 1);
+        x.pour(1, 1, 3, 98);
+        due("one grain, and room for one", x.leastAngle(1), 25);
+        x.pour(1, 1, 3, 1);
+        due("one grain, and no room", x.leastAngle(1), 44);
         x.jolt(0);
         due("moving heaps need less", x.leastAngle(0), 39);
         x.set(0, 30);
@@ -229,6 +234,11 @@ public final class ToldTest {
         due("restsIn(0)", x.restsIn(0), 0);
         x.tilt(0, 16);
         due("it is moving, but the cell 7 holds it", x.restsIn(0), 4);
+        due("restsIn(1)", x.restsIn(1), 0);
+        x.tilt(1, 90);
+        x.pour(1, 0, 2, 1);
+        due("one grain on the cell 0", x.restsIn(1), 8);
+        due("the board is not at rest", x.board(1, 7), 0);
         due("restsIn(5)", x.restsIn(5), TiltBoards.UNKNOWN);
         for (int wrong : Checks.WRONG) {
             due("restsIn(" + wrong + ")", x.restsIn(wrong), TiltBoards.UNKNOWN);
@@ -320,15 +330,20 @@ public final class ToldTest {
         due("a level board can clear itself", y.clearingAngle(3), 0);
     }
 
-    /** A heap that goes at a flat angle but is stuck to others at a steeper one. */
+    /** A board that is cleared at 32 degrees, but on which heaps meet and stick at 33. */
     private static void clearingAngleSkipsNone() {
         TiltBoards x = new TiltBoards();
-        x.pour(0, 0, 0, 99);
-        x.pour(0, 3, 1, 99);
-        for (int angle = 0; angle <= 90; angle++) {
-            int left = x.ifTilted(0, angle, 3);
-            boolean clears = x.clearingAngle(0) <= angle;
-            due("clearingAngle against ifTilted at " + angle, left == 0 ? 1 : 0, clears ? 1 : 0);
+        x.set(0, 19);
+        x.pour(0, 1, 2, 74);
+        x.pour(0, 3, 1, 95);
+        x.jolt(0);
+        x.pour(0, 4, 2, 60);
+        due("left at 31", x.ifTilted(0, 31, 3) > 0 ? 1 : 0, 1);
+        due("left at 32", x.ifTilted(0, 32, 3), 0);
+        due("left at 33", x.ifTilted(0, 33, 3), 46);
+        due("clearingAngle(0)", x.clearingAngle(0), 32);
+        for (int angle = 0; angle < 32; angle++) {
+            due("some are left at " + angle, x.ifTilted(0, angle, 3) > 0 ? 1 : 0, 1);
         }
     }
 
@@ -380,10 +395,13 @@ public final class ToldTest {
         due("boards at rest", x.count(6), 3);
         x.pass(9);
         x.emptyPan(0);
+        x.pour(0, 7, 2, 20);
+        x.pass(1);
+        x.pour(0, 0, 2, 1);
         x.tilt(2, 90);
         x.type('q');
         x.type('q');
-        int[] due = {9, 44, 41, 4, 129, 40, 4, 6, 11, 21, 4, 2};
+        int[] due = {10, 45, 61, 4, 150, 40, 3, 6, 11, 21, 4, 2};
         for (int what = 0; what < due.length; what++) {
             due("count(" + what + ")", x.count(what), due[what]);
         }
