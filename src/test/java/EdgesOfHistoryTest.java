@@ -21,6 +21,7 @@ public final class EdgesOfHistoryTest {
         refusedActsDropNothing();
         whatIsNoAct();
         undoBringsBackTheState();
+        orderOfKindsGoesBack();
         undoIsNotUndone();
         restoreWithoutSnapshot();
         keepAtFirstAndInPlace();
@@ -214,6 +215,27 @@ public final class EdgesOfHistoryTest {
                 x.undo();
             }
         }, Twins::busy);
+    }
+
+    /** Which kind slides first goes by the grips: with them it comes back. */
+    private static void orderOfKindsGoesBack() {
+        for (int way = 0; way < 3; way++) {
+            TiltBoards x = new TiltBoards();
+            x.pour(0, 6, 0, 2);
+            x.pour(0, 6, 1, 2);
+            x.pour(0, 7, 3, 98);
+            x.tilt(0, 40);
+            x.keep();
+            x.setGrip(0, 30);
+            if (way == 1) {
+                x.undo();
+            } else if (way == 2) {
+                x.restore();
+            }
+            x.pass(1);
+            due("the kind 0, way " + way, x.grains(0, 7, 0), way == 0 ? 0 : 1);
+            due("the kind 1, way " + way, x.grains(0, 7, 1), way == 0 ? 1 : 0);
+        }
     }
 
     // "Removes and restores the latest state of the history"

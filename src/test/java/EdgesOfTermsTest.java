@@ -603,5 +603,26 @@ public final class EdgesOfTermsTest {
         x.jolt(0);
         due("a moving heap needs less", x.board(0, 7), 0);
         due("boards at rest", x.count(6), 4);
+        atRestWithOneHeap();
+    }
+
+    /** One heap that slides is enough, wherever it lies. */
+    private static void atRestWithOneHeap() {
+        for (int place = 0; place < 160; place++) {
+            int board = place / 32;
+            int cell = place / 4 % 8;
+            int kind = place % 4;
+            TiltBoards x = new TiltBoards();
+            x.pour(board, cell, kind, 1);
+            x.tilt(board, 19 + 5 * kind);
+            due("too flat at " + place, x.board(board, 7), 1);
+            due("boards at rest", x.count(6), 5);
+            x.tilt(board, 20 + 5 * kind);
+            due("as great as needed at " + place, x.board(board, 7), 0);
+            due("boards at rest", x.count(6), 4);
+            due("restsIn()", x.restsIn(board), 8 - cell);
+            due("leastAngle()", x.leastAngle(board), 20 + 5 * kind);
+            due("clearingAngle()", x.clearingAngle(board), 20 + 5 * kind);
+        }
     }
 }

@@ -25,6 +25,7 @@ public final class EdgesOfTextsTest {
         typeRefused();
         clearTextOfAnyLength();
         clearTextChangesNothingElse();
+        nothingReadBehindTheEnd();
         signsOfTilts();
         signsOfPours();
         signsOfJoltsAndPans();
@@ -125,6 +126,27 @@ public final class EdgesOfTextsTest {
         due("the stop stays", x.stopped(0), 1);
         due("its error stays", x.stopped(1), FULL);
         due("the history stays", x.count(10), 4);
+    }
+
+    /** A text that ends too early is not read on into what stood there before. */
+    private static void nothingReadBehindTheEnd() {
+        String[] whole = {"t4=90", "p473*99", "j4", "e4", ".99", "j0;j0"};
+        for (String text : whole) {
+            for (int length = 0; length < text.length(); length++) {
+                TiltBoards x = new TiltBoards();
+                Checks.typeAll(x, text);
+                String early = text.substring(0, length);
+                due("'" + early + "' where '" + text + "' was", Checks.perform(x, early), fresh(early));
+            }
+        }
+        String[] early = {"t", "t0", "t0=", "p", "p0", "p00", "p000", "p000*", "j", "e", "."};
+        for (String part : early) {
+            String head = part.length() % 3 == 0 ? "" : part.length() % 3 == 1 ? "t0=9;" : "p473*9;";
+            int signs = 60 - head.length() - part.length();
+            String text = head + TWENTY.substring(0, signs - 1) + ";" + part;
+            due("length of '" + text + "'", text.length(), 60);
+            due("'" + text + "'", fresh(text), -160);
+        }
     }
 
     /** Behind what has been read, just these signs are allowed, and the end if it is a whole text. */
