@@ -461,8 +461,11 @@ public final class TiltBoards {
 
         void copyFrom(Board other) {
             System.arraycopy(other.heaps, 0, heaps, 0, CELLS * KINDS);
-            System.arraycopy(other.moving, 0, moving, 0, CELLS * KINDS);
             System.arraycopy(other.pan, 0, pan, 0, KINDS);
+            // The language's rule 4 lets only rows of numbers be copied by the library.
+            for (int place = 0; place < CELLS * KINDS; place++) {
+                moving[place] = other.moving[place];
+            }
             angle = other.angle;
             fallen = other.fallen;
             dust = other.dust;
@@ -949,16 +952,17 @@ public final class TiltBoards {
         /** Reads the digits that belong to a number; one too many is left to whoever reads on. */
         private int readNumber(int least, int most) {
             int value = readDigit(least, 9);
-            boolean goesOn = value > 0;
-            while (goesOn && at < length) {
-                int digit = signs[at] - '0';
-                goesOn = isWithin(digit, 0, 9) && value * 10 + digit <= most;
-                if (goesOn) {
-                    value = value * 10 + digit;
-                    at++;
-                }
+            while (at < length && canGoOn(value, signs[at], most)) {
+                value = value * 10 + (signs[at] - '0');
+                at++;
             }
             return value;
+        }
+
+        /** Whether a sign is a digit of the number that begins so; none goes on behind a 0. */
+        private static boolean canGoOn(int value, char sign, int most) {
+            int digit = sign - '0';
+            return value > 0 && isWithin(digit, 0, 9) && value * 10 + digit <= most;
         }
     }
 }

@@ -33,7 +33,8 @@ public final class FaceTest {
         constants();
         members();
         names();
-        source();
+        rules();
+        library();
         CHECKS.end("FaceTest");
     }
 
@@ -106,9 +107,49 @@ public final class FaceTest {
         }
     }
 
-    private static void source() throws Exception {
-        String source = Files.readString(Path.of("src/main/java/TiltBoards.java"), StandardCharsets.UTF_8);
-        String code = source.replaceAll("(?s)/\\*.*?\\*/", "").replaceAll("//[^\n]*", "");
+    private static String source() throws Exception {
+        return Files.readString(Path.of("src/main/java/TiltBoards.java"), StandardCharsets.UTF_8);
+    }
+
+    private static String code() throws Exception {
+        return source().replaceAll("(?s)/\\*.*?\\*/", "").replaceAll("//[^\n]*", "");
+    }
+
+    /** Rule 4: nothing but what is listed there; rows are copied by the library if they are of numbers. */
+    private static void library() throws Exception {
+        String code = code();
+        Set<String> known = new TreeSet<>(Set.of("TiltBoards", "System", "Math"));
+        for (Class<?> nested : TiltBoards.class.getDeclaredClasses()) {
+            known.add(nested.getSimpleName());
+        }
+        Matcher name = Pattern.compile("\\b[A-Z]\\w*[a-z]\\w*").matcher(code);
+        while (name.find()) {
+            CHECKS.due("the class " + name.group(), known.contains(name.group()));
+        }
+        Matcher copy = Pattern.compile("\\barraycopy\\((\\w+)\\.(\\w+), 0, (\\w+), 0,").matcher(code);
+        int copies = 0;
+        while (copy.find()) {
+            CHECKS.due(copy.group() + " copies to its like", copy.group(2).equals(copy.group(3)));
+            CHECKS.due(copy.group() + " copies numbers", isRowOfNumbers(copy.group(2)));
+            copies++;
+        }
+        CHECKS.due("copies by the library", copies, code.split("\\barraycopy\\b", -1).length - 1);
+    }
+
+    private static boolean isRowOfNumbers(String field) {
+        for (Class<?> nested : TiltBoards.class.getDeclaredClasses()) {
+            for (Field inside : nested.getDeclaredFields()) {
+                if (inside.getName().equals(field) && inside.getType() != int[].class) {
+                    return false;
+                }
+            }
+        }
+        return true;
+    }
+
+    private static void rules() throws Exception {
+        String source = source();
+        String code = code();
         for (String forbidden : FORBIDDEN) {
             Matcher matcher = Pattern.compile(forbidden).matcher(code);
             CHECKS.due("no " + forbidden + " in the source", !matcher.find());
